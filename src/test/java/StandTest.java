@@ -85,8 +85,10 @@ public final class StandTest {
     private static void followsTheWorld() {
         StuckSearch x = Kit.world("20", "a+a-");
         Kit.due("one process", "2/0", () -> Kit.standing(x, 1, 1));
+        Kit.due("at its end", 1, x::ended);
         Kit.process(x, "a-");
         Kit.due("two processes", "1,1/0 2,0/0", () -> Kit.standing(x, 2, 1));
+        Kit.due("never both at their ends", 0, x::ended);
         Kit.process(x, "x");
         Kit.due("a fault between", "1,1/0 2,0/0", () -> Kit.standing(x, 2, 1));
         x.variable(3, 1);

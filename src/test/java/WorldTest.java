@@ -96,9 +96,11 @@ public final class WorldTest {
         Kit.due("clear again", 0, x::clear);
         Kit.due("the tape's letters are none now", StuckSearch.NONE, x::process);
         Kit.due("the tape stays", 4, x::wipe);
-        Kit.due("a point needs no variable", 0, () -> Kit.process(x, "."));
-        Kit.due("stuck behind it", "1/", () -> Kit.standing(x, 1, 0));
+        Kit.due("a point needs no variable", 0, () -> Kit.process(x, ".|..|.*|."));
+        Kit.due("stuck behind it", "1/ 3/ 5/", () -> Kit.standing(x, 1, 0));
         Kit.due("falls to it", true, x::falls);
+        x.move(2);
+        Kit.due("or goes on", false, x::falls);
         Kit.due("variables are counted anew", 0, () -> x.variable(2, 1));
         Kit.due("with their values", 1, () -> x.has(0));
     }
