@@ -443,42 +443,47 @@ public final class StuckSearch {
             boolean ofVariable = variable >= 0 && variable < world.variableCount;
             if (begin != '.' && !ofVariable) {
                 meetFault(WRONG_BYTE);
-            } else if (course.isFull()) {
+                return;
+            }
+            if (course.isFull()) {
                 meetFault(TOO_MANY_ACTS);
-            } else if (ofVariable) {
-                at++;
-                readVariableAct(course, variable);
-            } else {
-                at++;
-                // A point changes nothing, so any variable will do for it.
-                addAct(course, '.', 0, 0);
+                return;
+            }
+            at++;
+            // A point changes nothing, so any variable will do for it.
+            int owner = ofVariable ? variable : 0;
+            int kind = ofVariable ? readKind() : '.';
+            int figure = takesFigure(kind) ? readFigure(world.sizes[owner]) : 0;
+            if (faultKind == 0) {
+                act.set(false, 1 << course.addAct(kind, owner, figure));
+                addThing(course, act);
             }
         }
 
-        private void readVariableAct(Course course, int variable) {
+        /** NONE, and a fault, when there is no kind of act. */
+        private int readKind() {
             int kind = tape.byteAt(at);
-            boolean hasFigure = kind == '=' || kind == '?' || kind == '!';
-            if (!hasFigure && kind != '+' && kind != '-') {
+            if (kind != '+' && kind != '-' && !takesFigure(kind)) {
                 meetFault(WRONG_BYTE);
-                return;
+                return NONE;
             }
             at++;
-            if (!hasFigure) {
-                addAct(course, kind, variable, 0);
-                return;
-            }
-            int figure = tape.byteAt(at) - '0';
-            if (figure < 0 || figure >= world.sizes[variable]) {
-                meetFault(WRONG_BYTE);
-                return;
-            }
-            at++;
-            addAct(course, kind, variable, figure);
+            return kind;
         }
 
-        private void addAct(Course course, int kind, int variable, int figure) {
-            act.set(false, 1 << course.addAct(kind, variable, figure));
-            addThing(course, act);
+        private static boolean takesFigure(int kind) {
+            return kind == '=' || kind == '?' || kind == '!';
+        }
+
+        /** NONE, and a fault, when there is no figure below the size. */
+        private int readFigure(int size) {
+            int figure = tape.byteAt(at) - '0';
+            if (figure < 0 || figure >= size) {
+                meetFault(WRONG_BYTE);
+                return NONE;
+            }
+            at++;
+            return figure;
         }
 
         /** The stars come first: whether a thing can be nothing shows only behind them. */
@@ -656,7 +661,9 @@ public final class StuckSearch {
                 return;
             }
             words[number / 64] |= 1L << number % 64;
-            lowest = Math.min(lowest, number / 64);
+            if (number / 64 < lowest) {
+                lowest = number / 64;
+            }
         }
 
         /** Takes the lowest number out and answers it; NONE when there is none. */
