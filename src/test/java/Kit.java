@@ -5,12 +5,18 @@ final class Kit {
     static final String STATE = "IllegalStateException";
 
     private static int wrong = 0;
+    private static String sentence = "";
 
     private Kit() {
     }
 
     interface Call {
         Object run();
+    }
+
+    /** The document's words that the calls behind this one test. */
+    static void says(String words) {
+        sentence = words;
     }
 
     /** The answer as a text, or the simple name of what was thrown. */
@@ -26,7 +32,7 @@ final class Kit {
         String got = answer(call);
         if (!got.equals(String.valueOf(want))) {
             wrong++;
-            System.out.println(what + " answered " + got + ", due is " + want);
+            System.out.println("\"" + sentence + "\": " + what + " answered " + got + ", due is " + want);
         }
     }
 
@@ -92,8 +98,31 @@ final class Kit {
         return all.toString();
     }
 
+    /** The state now, such as "1,0/2,4", of a world with so many of each. */
+    static String now(StuckSearch x, int processes, int variables) {
+        StringBuilder all = new StringBuilder();
+        for (int p = 0; p < processes; p++) {
+            all.append(p == 0 ? "" : ",").append(x.now(p));
+        }
+        all.append('/');
+        for (int v = 0; v < variables; v++) {
+            all.append(v == 0 ? "" : ",").append(x.has(v));
+        }
+        return all.toString();
+    }
+
     /** Places, steps and ends of a process, such as "5 5 2". */
     static String shape(StuckSearch x, int process) {
         return x.told(process, 0) + " " + x.told(process, 1) + " " + x.told(process, 2);
+    }
+
+    /** The fault and its place, such as "1 at 4"; "0 at -1" when there is none. */
+    static String fault(StuckSearch x) {
+        return x.fault() + " at " + x.faultAt();
+    }
+
+    /** Numbers that are none of so many: just outside, and as far outside as can be. */
+    static int[] outside(int count) {
+        return new int[] {-1, count, count + 1, Integer.MIN_VALUE, Integer.MAX_VALUE};
     }
 }

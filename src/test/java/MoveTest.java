@@ -1,119 +1,273 @@
-/** Promises 15 (moves), 16 (move), 17 (restart), 18 (now) and 19 (has). */
+/** Promises 15 (moves), 16 (move), 17 (restart), 18 (now) and 19 (has), and the state now. */
 public final class MoveTest {
+    private static final String ALL_WAYS = "(.|.|.|.|.|.|.|.|.|.|.|.)*";
+
     public static void main(String[] args) {
-        goesInOrder();
-        doesActs();
+        countsPossibleSteps();
+        ordersByProcessThenPlace();
+        answersProcessAndPlace();
+        goesTheStep();
         refusesWrongSteps();
+        mostStepsThatCanBe();
+        movesBeyondTheLimit();
         restarts();
-        isFirstWhenSomethingComes();
+        restartCountsSinceTheFirstState();
+        firstWhenAVariableComes();
+        firstWhenAProcessComes();
+        firstWhenAllIsCleared();
         staysWhenNothingComes();
-        manySteps();
-        wrongIndices();
+        nowOfNoProcess();
+        hasOfNoVariable();
         Kit.finish();
     }
 
-    private static void goesInOrder() {
+    private static void countsPossibleSteps() {
+        Kit.says("How many steps are possible now.");
+        Kit.due("with no processes", 0, () -> Kit.world("20").moves());
+        Kit.due("with a process of no thing", 0, () -> Kit.world("", "").moves());
+        Kit.due("with a step that can't be", 0, () -> Kit.world("20", "a-").moves());
         StuckSearch x = Kit.world("20", "a-|.|a+", ".*.|a?1");
-        Kit.due("moves", 4, x::moves);
+        Kit.due("those of both", 4, x::moves);
+        x.move(1);
+        Kit.due("with a at 1", 3, x::moves);
+        x.move(2);
+        Kit.due("at both ends", 0, x::moves);
+        StuckSearch y = Kit.world("20", "a=1|a=0", "a?1");
+        Kit.due("alike steps to two places", 2, y::moves);
+        y.move(0);
+        Kit.due("one that has become possible", 1, y::moves);
+    }
+
+    private static void ordersByProcessThenPlace() {
+        Kit.says("they are ordered by their processes, then by the places to which they go");
+        StuckSearch x = Kit.world("20", "a-|.|a+", ".*.|a?1");
         int[] due = {2, 3, 17, 18};
         for (int k = 0; k < due.length; k++) {
             int step = k;
             Kit.due("move " + k, due[k], () -> x.move(step));
-            Kit.due("restart", 1, x::restart);
+            x.restart();
         }
-        x.move(1);
-        Kit.due("with a at 1", 3, x::moves);
-        Kit.due("the third is open", 16 + 3, () -> x.move(2));
-        Kit.due("no more steps", 0, x::moves);
+        // Place 1 comes behind place 2 in the text's steps, but not in their order.
+        StuckSearch y = Kit.world("", "(..)*.");
+        y.move(0);
+        y.move(0);
+        Kit.due("back before on", 1, () -> y.move(0));
+        y.move(0);
+        Kit.due("on behind back", 3, () -> y.move(1));
+        StuckSearch z = Kit.world("", ".|.|.|.|.|.|.|.|.|.|.|.");
+        Kit.due("places as numbers", 2, () -> z.move(1));
+        z.restart();
+        Kit.due("places as numbers", 10, () -> z.move(9));
     }
 
-    private static void doesActs() {
+    private static void answersProcessAndPlace() {
+        Kit.says("Answers 16 times the process, and the place, together.");
+        String text = "............";
+        StuckSearch x = Kit.world("", text, text, text, text, text, text);
+        for (int p = 5; p >= 0; p--) {
+            int process = p;
+            for (int place = 1; place <= 12; place++) {
+                int target = place;
+                Kit.due("step of " + p, 16 * p + target, () -> x.move(process));
+            }
+        }
+        Kit.due("all at their ends", Kit.INDEX, () -> x.move(0));
+    }
+
+    private static void goesTheStep() {
+        Kit.says("The step k of those that are possible now is gone");
         StuckSearch x = Kit.world("30 54", "a+a+b-a=0b!4b?3");
-        String[] due = {"1 1,4", "2 2,4", "3 2,3", "4 0,3", "5 0,3", "6 0,3"};
+        String[] due = {"1/1,4", "2/2,4", "3/2,3", "4/0,3", "5/0,3", "6/0,3"};
         for (String one : due) {
             x.move(0);
-            Kit.due("state", one, () -> x.now(0) + " " + x.has(0) + "," + x.has(1));
+            Kit.due("state", one, () -> Kit.now(x, 1, 2));
         }
         Kit.due("at the end", 0, x::moves);
-        x.restart();
-        Kit.due("first again", "0 0,4", () -> x.now(0) + " " + x.has(0) + "," + x.has(1));
+        StuckSearch y = Kit.world("30", "a+", "a+", "a-");
+        y.move(1);
+        Kit.due("one process alone", "0,1,0/1", () -> Kit.now(y, 3, 1));
+        y.move(1);
+        Kit.due("then another", "0,1,1/0", () -> Kit.now(y, 3, 1));
+        y.move(0);
+        Kit.due("then the last", "1,1,1/1", () -> Kit.now(y, 3, 1));
     }
 
     private static void refusesWrongSteps() {
-        StuckSearch x = Kit.world("20", "(a+a-)*", ".");
+        Kit.says("IndexOutOfBoundsException: there is none.");
+        StuckSearch x = Kit.world("20", "(a+a-)*", ".", "a-");
         x.move(0);
-        for (int k : new int[] {2, 3, -1, Integer.MAX_VALUE, Integer.MIN_VALUE}) {
+        Kit.due("moves", 3, x::moves);
+        for (int k : Kit.outside(3)) {
             Kit.due("move " + k, Kit.INDEX, () -> x.move(k));
         }
-        Kit.due("nothing was gone", "1 0 1", () -> x.now(0) + " " + x.now(1) + " " + x.has(0));
-        Kit.due("nor counted", 1, x::restart);
-        StuckSearch y = Kit.world("20", "a-");
-        Kit.due("a step that is not possible", Kit.INDEX, () -> y.move(0));
-        Kit.due("no process", Kit.INDEX, () -> Kit.world("20").move(0));
+        Kit.due("nothing was gone", "1,0,0/1", () -> Kit.now(x, 3, 1));
+        Kit.due("the last there is", 33, () -> x.move(2));
+        Kit.due("nothing was counted", 2, x::restart);
+        for (int k : Kit.outside(0)) {
+            Kit.due("no process: move " + k, Kit.INDEX, () -> Kit.world("20").move(k));
+            Kit.due("no thing: move " + k, Kit.INDEX, () -> Kit.world("20", "").move(k));
+            Kit.due("no possible step: move " + k, Kit.INDEX, () -> Kit.world("20", "a-").move(k));
+        }
+        Kit.due("no process: move 0", Kit.INDEX, () -> Kit.world("20").move(0));
+        Kit.due("no possible step: move 0", Kit.INDEX, () -> Kit.world("20", "a-").move(0));
+    }
+
+    private static void mostStepsThatCanBe() {
+        Kit.says("The step k of those that are possible now is gone");
+        StuckSearch x = Kit.world("", ALL_WAYS, ALL_WAYS, ALL_WAYS, ALL_WAYS, ALL_WAYS, ALL_WAYS);
+        Kit.due("moves", 72, x::moves);
+        for (int k = 0; k < 72; k++) {
+            int step = k;
+            Kit.due("move " + k, 16 * (k / 12) + 1 + k % 12, () -> x.move(step));
+        }
+        Kit.due("moves", 72, x::moves);
+        Kit.due("one too far", Kit.INDEX, () -> x.move(72));
+        Kit.due("the last places", "12,12,12,12,12,12/", () -> Kit.now(x, 6, 0));
+        Kit.due("steps gone", 72, x::restart);
+        StuckSearch y = Kit.world("50", ALL_WAYS, "a+*", ALL_WAYS);
+        Kit.due("moves of three", 25, y::moves);
+        for (int i = 0; i < 4; i++) {
+            Kit.due("the middle one", 17, () -> y.move(12));
+        }
+        Kit.due("a is at its greatest", 24, y::moves);
+        Kit.due("the first of the third", 33, () -> y.move(12));
+    }
+
+    private static void movesBeyondTheLimit() {
+        Kit.says("The step k of those that are possible now is gone");
+        StuckSearch x = Kit.world("50 50 50 50 50", "a+b+", "c=4", "...........e!0");
+        Kit.due("product", StuckSearch.MANY, x::product);
+        Kit.due("moves", 3, x::moves);
+        Kit.due("move", 17, () -> x.move(1));
+        Kit.due("move", 1, () -> x.move(0));
+        Kit.due("state", "1,1,0/1,0,4,0,0", () -> Kit.now(x, 3, 5));
+        Kit.due("moves", 2, x::moves);
+        Kit.due("no such move", Kit.INDEX, () -> x.move(2));
+        Kit.due("restart", 2, x::restart);
+        Kit.due("state", "0,0,0/0,0,0,0,0", () -> Kit.now(x, 3, 5));
     }
 
     private static void restarts() {
+        Kit.says("The state now is the first one.");
+        StuckSearch x = Kit.world("32 43", "(a-a+)*", ".", "b=0");
+        x.move(0);
+        x.move(1);
+        x.move(1);
+        Kit.due("before", "1,1,1/1,0", () -> Kit.now(x, 3, 2));
+        x.restart();
+        Kit.due("state", "0,0,0/2,3", () -> Kit.now(x, 3, 2));
+        Kit.due("moves", 3, x::moves);
+        Kit.due("the processes stay", "3 3 2", () -> Kit.shape(x, 0));
+        Kit.due("the tape stays", 3, x::wipe);
+    }
+
+    private static void restartCountsSinceTheFirstState() {
+        Kit.says("Answers how many steps were gone since it last was.");
         StuckSearch x = Kit.world("32", "(a-a+)*", ".");
-        Kit.due("restart at first", 0, x::restart);
+        Kit.due("at first", 0, x::restart);
         x.move(0);
         x.move(0);
         x.move(1);
-        Kit.due("restart", 3, x::restart);
-        Kit.due("restart again", 0, x::restart);
-        Kit.due("state", "0 0 2", () -> x.now(0) + " " + x.now(1) + " " + x.has(0));
-        Kit.due("moves", 2, x::moves);
-        Kit.due("the processes stay", "3 3 2", () -> Kit.shape(x, 0));
+        Kit.answer(() -> x.move(9));
+        Kit.due("three steps", 3, x::restart);
+        Kit.due("again", 0, x::restart);
+        x.move(1);
+        Kit.due("one step more", 1, x::restart);
+        Kit.due("of a new object", 0, () -> new StuckSearch().restart());
+        StuckSearch y = Kit.world("", ".*");
+        for (int i = 0; i < 300; i++) {
+            y.move(0);
+        }
+        Kit.due("three hundred", 300, y::restart);
     }
 
-    private static void isFirstWhenSomethingComes() {
+    private static void firstWhenAVariableComes() {
+        Kit.says("the first one, when a variable or a process comes, or all is cleared");
+        StuckSearch x = Kit.world("32", "a-a-", ".");
+        x.move(0);
+        x.move(1);
+        x.variable(4, 3);
+        Kit.due("state", "0,0/2,3", () -> Kit.now(x, 2, 2));
+        Kit.due("moves", 2, x::moves);
+        Kit.due("no steps since", 0, x::restart);
+        x.move(0);
+        Kit.due("one step since", 1, x::restart);
+    }
+
+    private static void firstWhenAProcessComes() {
+        Kit.says("the first one, when a variable or a process comes, or all is cleared");
+        for (String text : new String[] {"b-", "", "."}) {
+            StuckSearch x = Kit.world("32 43", "a-b-");
+            x.move(0);
+            x.move(0);
+            Kit.process(x, text);
+            Kit.due("state", "0,0/2,3", () -> Kit.now(x, 2, 2));
+            Kit.due("no steps since", 0, x::restart);
+        }
+    }
+
+    private static void firstWhenAllIsCleared() {
+        Kit.says("the first one, when a variable or a process comes, or all is cleared");
         StuckSearch x = Kit.world("32", "a-a-");
         x.move(0);
-        x.variable(4, 3);
-        Kit.due("a variable came", "0 2,3", () -> x.now(0) + " " + x.has(0) + "," + x.has(1));
-        Kit.due("no steps since", 0, x::restart);
-        x.move(0);
-        Kit.process(x, "b-");
-        Kit.due("a process came", "0,0 2,3", () -> x.now(0) + "," + x.now(1) + " " + x.has(0) + "," + x.has(1));
-        Kit.due("no steps since", 0, x::restart);
-        x.move(0);
         x.clear();
-        Kit.due("cleared", 0, x::restart);
-        Kit.due("no steps", 0, x::moves);
+        Kit.due("no steps since", 0, x::restart);
+        Kit.due("moves", 0, x::moves);
+        x.variable(2, 0);
+        Kit.process(x, ".");
+        Kit.due("nothing of the old state", "0/0", () -> Kit.now(x, 1, 1));
     }
 
     private static void staysWhenNothingComes() {
+        Kit.says("the first one, when a variable or a process comes, or all is cleared");
         StuckSearch x = Kit.world("32 20 20 20 20", "a-a-");
         x.move(0);
         x.variable(2, 1);
+        Kit.due("a variable that did not come", "1/1,0,0,0,0", () -> Kit.now(x, 1, 5));
         Kit.process(x, "y");
+        Kit.due("a process that did not come", "1/1,0,0,0,0", () -> Kit.now(x, 1, 5));
         Kit.answer(() -> x.variable(9, 9));
         Kit.answer(() -> x.feed(9, 9));
         x.wipe();
+        x.feed(1, 46L);
         x.stuck();
+        x.ended();
+        x.place(0, 0);
         x.falls();
-        Kit.due("the state now", "1 1", () -> x.now(0) + " " + x.has(0));
+        Kit.due("questions", "1/1,0,0,0,0", () -> Kit.now(x, 1, 5));
         Kit.due("the steps gone", 1, x::restart);
     }
 
-    private static void manySteps() {
-        StuckSearch x = Kit.world("50", "(.|.|.|.|.|.|.|.|.|.|.|.)*", "a+*", "(.|.|.|.|.|.|.|.|.|.|.|.)*");
-        Kit.due("moves", 25, x::moves);
-        Kit.due("the last", 16 * 2 + 12, () -> x.move(24));
-        for (int i = 0; i < 4; i++) {
-            Kit.due("the middle", 17, () -> x.move(12));
+    private static void nowOfNoProcess() {
+        Kit.says("IndexOutOfBoundsException: there is no such process.");
+        for (int count : new int[] {0, 1, 2, 6}) {
+            StuckSearch x = Kit.world("20 20 20 20 20");
+            for (int i = 0; i < count; i++) {
+                Kit.process(x, ".");
+            }
+            for (int process : Kit.outside(count)) {
+                Kit.due("now " + process + " of " + count, Kit.INDEX, () -> x.now(process));
+            }
+            if (count > 0) {
+                x.move(count - 1);
+                Kit.due("now of the last of " + count, 1, () -> x.now(count - 1));
+            }
         }
-        Kit.due("a is full", 24, x::moves);
-        Kit.due("the first of the third", 16 * 2 + 1, () -> x.move(12));
-        Kit.due("steps gone", 6, x::restart);
     }
 
-    private static void wrongIndices() {
-        StuckSearch x = Kit.world("20 31", ".", ".");
-        for (int i : new int[] {2, -1, 5, 6, Integer.MAX_VALUE, Integer.MIN_VALUE}) {
-            Kit.due("now " + i, Kit.INDEX, () -> x.now(i));
-            Kit.due("has " + i, Kit.INDEX, () -> x.has(i));
+    private static void hasOfNoVariable() {
+        Kit.says("IndexOutOfBoundsException: there is no such variable.");
+        for (int count : new int[] {0, 1, 2, 5}) {
+            StuckSearch x = Kit.world("", ".", ".", ".", ".", ".", ".");
+            for (int i = 0; i < count; i++) {
+                x.variable(3, 2);
+            }
+            for (int variable : Kit.outside(count)) {
+                Kit.due("has " + variable + " of " + count, Kit.INDEX, () -> x.has(variable));
+            }
+            if (count > 0) {
+                Kit.due("has of the last of " + count, 2, () -> x.has(count - 1));
+            }
         }
-        Kit.due("the last process", 0, () -> x.now(1));
-        Kit.due("the last variable", 1, () -> x.has(1));
     }
 }

@@ -1,8 +1,13 @@
 import com.sun.management.ThreadMXBean;
 import java.lang.management.ManagementFactory;
 
-/** All calls live in one room: a new object is small, and the dearest calls make nothing. */
+/**
+ * All calls of a run live in one room of some 600,000 objects and arrays with 7.3 million fields and
+ * elements. Each of these has a byte at least, and each object has 16, so that whatever makes less
+ * than 7.3 million bytes has place there.
+ */
 public final class RoomTest {
+    private static final long ROOM = 7_300_000L;
     private static final ThreadMXBean THREADS = (ThreadMXBean) ManagementFactory.getThreadMXBean();
 
     public static void main(String[] args) {
@@ -10,12 +15,15 @@ public final class RoomTest {
         use(first, 1);
         long begin = made();
         StuckSearch x = new StuckSearch();
-        long object = made() - begin;
-        Kit.due("a new object has less than 64 KiB", true, () -> object < 64 * 1024);
-        begin = made();
         use(x, 9);
-        long calls = made() - begin;
-        Kit.due("some 500 dear calls make less than 64 KiB", true, () -> calls < 64 * 1024);
+        long used = made() - begin;
+        Kit.says("one room");
+        Kit.due("an object and some 500 of the dearest calls have place", true, () -> used < ROOM);
+        begin = made();
+        StuckSearch y = new StuckSearch();
+        refuse(y);
+        long refused = made() - begin;
+        Kit.due("an object and some 500 refused calls have place", true, () -> refused < ROOM);
         Kit.finish();
     }
 
@@ -43,6 +51,13 @@ public final class RoomTest {
                 x.falls();
                 x.product();
             }
+        }
+    }
+
+    private static void refuse(StuckSearch x) {
+        for (int i = 0; i < 250; i++) {
+            Kit.answer(() -> x.move(0));
+            Kit.answer(() -> x.feed(0, 0L));
         }
     }
 }
