@@ -30,6 +30,7 @@ public final class FaceTest {
     };
 
     public static void main(String[] args) {
+        Kit.says("## The public face");
         Kit.due("NONE", -1, () -> StuckSearch.NONE);
         Kit.due("MANY", -2, () -> StuckSearch.MANY);
         Kit.due("the class is public and final", Modifier.PUBLIC | Modifier.FINAL,
@@ -39,7 +40,6 @@ public final class FaceTest {
         Constructor<?>[] made = StuckSearch.class.getDeclaredConstructors();
         Kit.due("the constructors", "1 0 1",
             () -> made.length + " " + made[0].getParameterCount() + " " + made[0].getModifiers());
-        Kit.due("private names", "[]", FaceTest::sharedNames);
         Kit.finish();
     }
 
@@ -74,27 +74,5 @@ public final class FaceTest {
             }
         }
         return found;
-    }
-
-    /** LANGUAGE.md, rule 1: no private method bears the name of a public one. */
-    private static Set<String> sharedNames() {
-        Set<String> face = new TreeSet<>();
-        for (Method method : StuckSearch.class.getMethods()) {
-            face.add(method.getName());
-        }
-        Set<String> found = new TreeSet<>();
-        addShared(StuckSearch.class, face, found);
-        for (Class<?> inside : StuckSearch.class.getDeclaredClasses()) {
-            addShared(inside, face, found);
-        }
-        return found;
-    }
-
-    private static void addShared(Class<?> owner, Set<String> face, Set<String> found) {
-        for (Method method : owner.getDeclaredMethods()) {
-            if (Modifier.isPrivate(method.getModifiers()) && face.contains(method.getName())) {
-                found.add(owner.getSimpleName() + "." + method.getName());
-            }
-        }
     }
 }

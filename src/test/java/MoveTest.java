@@ -4,6 +4,10 @@ public final class MoveTest {
 
     public static void main(String[] args) {
         countsPossibleSteps();
+        possibleWhereItBeginsIfItsActCanBeDone();
+        theFirstState();
+        nowOfEachProcess();
+        hasOfEachVariable();
         ordersByProcessThenPlace();
         answersProcessAndPlace();
         goesTheStep();
@@ -36,6 +40,57 @@ public final class MoveTest {
         Kit.due("alike steps to two places", 2, y::moves);
         y.move(0);
         Kit.due("one that has become possible", 1, y::moves);
+    }
+
+    private static void possibleWhereItBeginsIfItsActCanBeDone() {
+        Kit.says("A step to a place is possible in a state if the process is where it begins and the place's act can be"
+            + " done; it is there then, and the act is done.");
+        StuckSearch x = Kit.world("20", ".a?1a=0", "a+");
+        Kit.due("only from where both are", 2, x::moves);
+        Kit.due("the first of process 0", 1, () -> x.move(0));
+        Kit.due("not its second, whose act can't be done", 1, x::moves);
+        Kit.due("that of process 1", 17, () -> x.move(0));
+        Kit.due("both acts are done", "1,1/1", () -> Kit.now(x, 2, 1));
+        Kit.due("now the second of process 0", 2, () -> x.move(0));
+        Kit.due("it is there, a stays", "2,1/1", () -> Kit.now(x, 2, 1));
+        Kit.due("the last of process 0", 3, () -> x.move(0));
+        Kit.due("it is there, a is 0", "3,1/0", () -> Kit.now(x, 2, 1));
+        Kit.due("none is left, though a+ could be done", 0, x::moves);
+        StuckSearch y = Kit.world("30", "a+*");
+        y.move(0);
+        y.move(0);
+        Kit.due("a step to where it begins is gone, too", "1/2", () -> Kit.now(y, 1, 1));
+    }
+
+    private static void theFirstState() {
+        Kit.says("the first one: all 0, and the first values");
+        Kit.due("of six and five", "0,0,0,0,0,0/4,0,1,2,3",
+            () -> Kit.now(Kit.world("54 20 31 42 53", ".", "..", "", "a+", ".*", "b-|c+"), 6, 5));
+        Kit.due("of processes alone", "0,0/", () -> Kit.now(Kit.world("", ".", ""), 2, 0));
+        Kit.due("of variables alone", "/1,2", () -> Kit.now(Kit.world("21 32"), 0, 2));
+    }
+
+    private static void nowOfEachProcess() {
+        Kit.says("The place of a process now.");
+        StuckSearch x = Kit.world("", ALL_WAYS, ALL_WAYS, ALL_WAYS, ALL_WAYS, ALL_WAYS, ALL_WAYS);
+        for (int p = 0; p < 6; p++) {
+            int process = p;
+            for (int place : new int[] {1, 12, 7 + p}) {
+                x.move(12 * p + place - 1);
+                Kit.due("now " + p, place, () -> x.now(process));
+            }
+        }
+        Kit.due("all six", "7,8,9,10,11,12/", () -> Kit.now(x, 6, 0));
+    }
+
+    private static void hasOfEachVariable() {
+        Kit.says("The value of a variable now.");
+        StuckSearch x = Kit.world("54 52 50 51 53", "a=1b=3c=4d=0e=2");
+        String[] due = {"1/1,2,0,1,3", "2/1,3,0,1,3", "3/1,3,4,1,3", "4/1,3,4,0,3", "5/1,3,4,0,2"};
+        for (String one : due) {
+            x.move(0);
+            Kit.due("state", one, () -> Kit.now(x, 1, 5));
+        }
     }
 
     private static void ordersByProcessThenPlace() {
